@@ -1,0 +1,217 @@
+import java.util.Random;
+
+/** Long runs of calls, each answer compared with that of a plain model: eight rows of stamps. */
+public final class ModelTest {
+    private static final int BAD = -1, NONE = -2, FULL = -3;
+    private static final int CALLS = 512;
+    private static final int[] SIZES = {4, 5, 6, 7, 8, 13, 30, 31};
+
+    private static final Due due = new Due();
+
+    public static void main(String[] args) {
+        for (int m : SIZES) {
+            for (int seed = 0; seed < 60; seed++) {
+                run(m, seed);
+            }
+        }
+        due.end();
+    }
+
+    private static void run(int m, int seed) {
+        Random random = new Random(seed * 100L + m);
+        SharedTrees x = new SharedTrees(m);
+        Model model = new Model();
+        int span = seed % 3 == 0 ? 4096 : seed % 3 == 1 ? 600 : 90;
+        int wrongOnes = seed % 4 == 0 ? 10 : 0;
+        for (int call = 0; call < CALLS - 8; call++) {
+            step(x, model, random, span, wrongOnes, "m " + m + ", seed " + seed + ", call " + call);
+            if (call % 3 == 0) {
+                due.is("m " + m + ", seed " + seed + ", check() behind " + call, x.check(), 0);
+            }
+        }
+        compareAll(x, model, "m " + m + ", seed " + seed);
+    }
+
+    private static void step(SharedTrees x, Model o, Random random, int span, int wrong, String at) {
+        int map = number(random, 8, wrong);
+        int other = number(random, 8, wrong);
+        int key = number(random, span, wrong);
+        int to = number(random, 5, 0) == 0 ? number(random, span, wrong) : key + random.nextInt(40);
+        int stamp = number(random, 1_000_000_001, wrong);
+        int step = 1 + number(random, random.nextInt(8) == 0 ? 4095 : 9, wrong);
+        int many = number(random, random.nextInt(9) == 0 ? 601 : 60, wrong);
+        switch (random.nextInt(26)) {
+            case 0, 1, 2, 3, 4, 5 ->
+                due.is(at + ": write", x.write(map, key, stamp), o.write(map, key, stamp));
+            case 6, 7, 8 -> due.is(at + ": spread", x.spread(map, key, step, many, stamp),
+                o.spread(map, key, step, many, stamp));
+            case 9, 10 -> due.is(at + ": read", x.read(map, key), o.read(map, key));
+            case 11, 12, 13, 14, 15 -> {
+                int there = o.next(map, key);
+                int erased = there >= 0 ? there : key;
+                due.is(at + ": erase", x.erase(map, erased), o.erase(map, erased));
+            }
+            case 16, 17 -> due.is(at + ": cut", x.cut(map, key, to), o.cut(map, key, to));
+            case 18 -> due.is(at + ": next", x.next(map, key), o.next(map, key));
+            case 19, 20, 21 -> due.is(at + ": clone", x.clone(map, other), o.clone(map, other));
+            case 22 -> due.is(at + ": drop", x.drop(map), o.drop(map));
+            case 23 -> due.is(at + ": keep", x.keep(), o.keep());
+            case 24 -> due.is(at + ": back", x.back(), o.back());
+            default -> due.is(at + ": keys", x.keys(map - 1), o.keys(map - 1));
+        }
+    }
+
+    /* Mostly 0 .. bound - 1; of a hundred, some lie about the ends or anywhere. */
+    private static int number(Random random, int bound, int wrongOfHundred) {
+        if (random.nextInt(100) >= wrongOfHundred) {
+            return random.nextInt(bound);
+        }
+        switch (random.nextInt(3)) {
+            case 0: return -1;
+            case 1: return bound;
+            default: return random.nextInt();
+        }
+    }
+
+    /* The maps as they are, then as they were kept: more reads than the calls left would allow, so by next. */
+    private static void compareAll(SharedTrees x, Model model, String at) {
+        for (int round = 0; round < 2; round++) {
+            for (int map = 0; map < 8; map++) {
+                due.is(at + ": keys", x.keys(map), model.keys(map));
+                for (int key = 0; key < 4096; key++) {
+                    due.is(at + ": read", x.read(map, key), model.read(map, key));
+                    due.is(at + ": next", x.next(map, key), model.next(map, key));
+                }
+            }
+            due.is(at + ": back", x.back(), model.back());
+            due.is(at + ": check", x.check(), 0);
+        }
+    }
+
+    private static final class Model {
+        private int[][] now = new int[8][4096];
+        private int[][] kept;
+
+        Model() {
+            for (int[] row : now) {
+                java.util.Arrays.fill(row, NONE);
+            }
+            kept = copyOf(now);
+        }
+
+        private static int[][] copyOf(int[][] rows) {
+            int[][] copy = new int[rows.length][];
+            for (int i = 0; i < rows.length; i++) {
+                copy[i] = rows[i].clone();
+            }
+            return copy;
+        }
+
+        private static boolean in(int number, int from, int to) {
+            return from <= number && number <= to;
+        }
+
+        private static boolean wrongPlace(int map, int key) {
+            return !in(map, 0, 7) || !in(key, 0, 4095);
+        }
+
+        int write(int map, int key, int stamp) {
+            if (wrongPlace(map, key) || !in(stamp, 0, 1_000_000_000)) {
+                return BAD;
+            }
+            if (now[map][key] == NONE && keys(-1) == 600) {
+                return FULL;
+            }
+            now[map][key] = stamp;
+            return keys(map);
+        }
+
+        int spread(int map, int key, int step, int many, int stamp) {
+            if (wrongPlace(map, key) || !in(stamp, 0, 1_000_000_000)
+                || !in(step, 1, 4095) || !in(many, 0, 600)) {
+                return BAD;
+            }
+            for (int i = 0; i < many; i++) {
+                if (write(map, key + i * step, stamp + i) < 0) {
+                    return i;
+                }
+            }
+            return many;
+        }
+
+        int read(int map, int key) {
+            return wrongPlace(map, key) ? BAD : now[map][key];
+        }
+
+        int erase(int map, int key) {
+            int stamp = read(map, key);
+            if (stamp >= 0) {
+                now[map][key] = NONE;
+            }
+            return stamp;
+        }
+
+        int cut(int map, int from, int to) {
+            if (wrongPlace(map, from) || wrongPlace(map, to) || to < from) {
+                return BAD;
+            }
+            int many = 0;
+            for (int key = from; key <= to; key++) {
+                many += erase(map, key) >= 0 ? 1 : 0;
+            }
+            return many;
+        }
+
+        int next(int map, int key) {
+            if (wrongPlace(map, key)) {
+                return BAD;
+            }
+            for (int k = key; k < 4096; k++) {
+                if (now[map][k] >= 0) {
+                    return k;
+                }
+            }
+            return NONE;
+        }
+
+        int clone(int map, int from) {
+            if (!in(map, 0, 7) || !in(from, 0, 7) || map == from) {
+                return BAD;
+            }
+            if (keys(-1) - keys(map) + keys(from) > 600) {
+                return FULL;
+            }
+            now[map] = now[from].clone();
+            return keys(map);
+        }
+
+        int drop(int map) {
+            return cut(map, 0, 4095);
+        }
+
+        int keep() {
+            kept = copyOf(now);
+            return keys(-1);
+        }
+
+        int back() {
+            now = copyOf(kept);
+            return keys(-1);
+        }
+
+        int keys(int map) {
+            if (!in(map, -1, 7)) {
+                return BAD;
+            }
+            int many = 0;
+            for (int i = 0; i < 8; i++) {
+                if (map == -1 || map == i) {
+                    for (int stamp : now[i]) {
+                        many += stamp >= 0 ? 1 : 0;
+                    }
+                }
+            }
+            return many;
+        }
+    }
+}
