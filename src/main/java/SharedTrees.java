@@ -165,7 +165,10 @@ public final class SharedTrees {
         return stamp >= 0 && stamp <= LAST_STAMP;
     }
 
-    /* Both halves of a node of most + 1 have as many; a node of one less and one of these make one. */
+    /*
+     * As many as both halves of a node with one entry too many have; and a node with one entry
+     * less than this fits into one node together with a node that has just this many.
+     */
     private static int leastEntries(int most) {
         return (most + 1) / 2;
     }
@@ -182,7 +185,6 @@ public final class SharedTrees {
         }
     }
 
-    /* The new way is counted before the old one goes: both may lead to the same block. */
     private void lead(Maps maps, int map, int root, int count) {
         blocks.share(root);
         trees.release(maps.roots[map]);
@@ -608,7 +610,6 @@ public final class SharedTrees {
             return keysBelow[root] == count ? 0 : wrong;
         }
 
-        /* What is too little hangs on the way: a root of one tree can lie below in another. */
         private int faultBelow(int block, int level) {
             if (level < 0 || level > TOP_LEVEL || !blocks.isBlock(block)) {
                 return WRONG_WAY;
@@ -657,6 +658,7 @@ public final class SharedTrees {
                 if (!blocks.isBlock(child) || blocks.level(child) != level - 1) {
                     return block;
                 }
+                // Asked of each way, as a root with fewer entries can be a block of other trees too.
                 if (blocks.size(child) < least) {
                     return child;
                 }

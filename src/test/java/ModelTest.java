@@ -1,35 +1,57 @@
+import java.util.ArrayList;
+import java.util.List;
 import java.util.Random;
+import java.util.TreeMap;
 
-/** Long runs of calls, each answer compared with that of a plain model: eight rows of stamps. */
+/** Long runs of calls, each answer compared with that of a plain model. */
 public final class ModelTest {
     private static final int BAD = -1, NONE = -2, FULL = -3;
     private static final int CALLS = 512;
+    private static final int SAMPLES = 25;
     private static final int[] SIZES = {4, 5, 6, 7, 8, 13, 30, 31};
 
     private static final Due due = new Due();
 
     public static void main(String[] args) {
         for (int m : SIZES) {
-            for (int seed = 0; seed < 60; seed++) {
+            for (int seed = 0; seed < 150; seed++) {
                 run(m, seed);
             }
         }
         due.end();
     }
 
+    /* Steps with a check behind every third; the last calls look at what is there and at what was kept. */
     private static void run(int m, int seed) {
         Random random = new Random(seed * 100L + m);
         SharedTrees x = new SharedTrees(m);
         Model model = new Model();
         int span = seed % 3 == 0 ? 4096 : seed % 3 == 1 ? 600 : 90;
         int wrongOnes = seed % 4 == 0 ? 10 : 0;
-        for (int call = 0; call < CALLS - 8; call++) {
-            step(x, model, random, span, wrongOnes, "m " + m + ", seed " + seed + ", call " + call);
-            if (call % 3 == 0) {
-                due.is("m " + m + ", seed " + seed + ", check() behind " + call, x.check(), 0);
+        String at = "m " + m + ", seed " + seed;
+        int call = 0;
+        while (call < CALLS - 4 * SAMPLES - 4) {
+            step(x, model, random, span, wrongOnes, at + ", call " + call);
+            call++;
+            if (call % 4 == 3) {
+                due.is(at + ", check() at call " + call, x.check(), 0);
+                call++;
             }
         }
-        compareAll(x, model, "m " + m + ", seed " + seed);
+        sample(x, model, random, span, at);
+        due.is(at + ": back", x.back(), model.back());
+        sample(x, model, random, span, at);
+        due.is(at + ": check", x.check(), 0);
+    }
+
+    private static void sample(SharedTrees x, Model model, Random random, int span, String at) {
+        for (int i = 0; i < SAMPLES; i++) {
+            int map = random.nextInt(8);
+            int key = random.nextInt(span);
+            due.is(at + ": next", x.next(map, key), model.next(map, key));
+            int there = Math.max(0, model.next(map, key));
+            due.is(at + ": read", x.read(map, there), model.read(map, there));
+        }
     }
 
     private static void step(SharedTrees x, Model o, Random random, int span, int wrong, String at) {
@@ -73,36 +95,21 @@ public final class ModelTest {
         }
     }
 
-    /* The maps as they are, then as they were kept: more reads than the calls left would allow, so by next. */
-    private static void compareAll(SharedTrees x, Model model, String at) {
-        for (int round = 0; round < 2; round++) {
-            for (int map = 0; map < 8; map++) {
-                due.is(at + ": keys", x.keys(map), model.keys(map));
-                for (int key = 0; key < 4096; key++) {
-                    due.is(at + ": read", x.read(map, key), model.read(map, key));
-                    due.is(at + ": next", x.next(map, key), model.next(map, key));
-                }
-            }
-            due.is(at + ": back", x.back(), model.back());
-            due.is(at + ": check", x.check(), 0);
-        }
-    }
-
     private static final class Model {
-        private int[][] now = new int[8][4096];
-        private int[][] kept;
+        private List<TreeMap<Integer, Integer>> now = new ArrayList<>();
+        private List<TreeMap<Integer, Integer>> kept;
 
         Model() {
-            for (int[] row : now) {
-                java.util.Arrays.fill(row, NONE);
+            for (int map = 0; map < 8; map++) {
+                now.add(new TreeMap<>());
             }
             kept = copyOf(now);
         }
 
-        private static int[][] copyOf(int[][] rows) {
-            int[][] copy = new int[rows.length][];
-            for (int i = 0; i < rows.length; i++) {
-                copy[i] = rows[i].clone();
+        private static List<TreeMap<Integer, Integer>> copyOf(List<TreeMap<Integer, Integer>> maps) {
+            List<TreeMap<Integer, Integer>> copy = new ArrayList<>();
+            for (TreeMap<Integer, Integer> map : maps) {
+                copy.add(new TreeMap<>(map));
             }
             return copy;
         }
@@ -115,14 +122,18 @@ public final class ModelTest {
             return !in(map, 0, 7) || !in(key, 0, 4095);
         }
 
+        private static int orNone(Integer number) {
+            return number == null ? NONE : number;
+        }
+
         int write(int map, int key, int stamp) {
             if (wrongPlace(map, key) || !in(stamp, 0, 1_000_000_000)) {
                 return BAD;
             }
-            if (now[map][key] == NONE && keys(-1) == 600) {
+            if (!now.get(map).containsKey(key) && keys(-1) == 600) {
                 return FULL;
             }
-            now[map][key] = stamp;
+            now.get(map).put(key, stamp);
             return keys(map);
         }
 
@@ -140,38 +151,24 @@ public final class ModelTest {
         }
 
         int read(int map, int key) {
-            return wrongPlace(map, key) ? BAD : now[map][key];
+            return wrongPlace(map, key) ? BAD : orNone(now.get(map).get(key));
         }
 
         int erase(int map, int key) {
-            int stamp = read(map, key);
-            if (stamp >= 0) {
-                now[map][key] = NONE;
-            }
-            return stamp;
+            return wrongPlace(map, key) ? BAD : orNone(now.get(map).remove(key));
         }
 
         int cut(int map, int from, int to) {
             if (wrongPlace(map, from) || wrongPlace(map, to) || to < from) {
                 return BAD;
             }
-            int many = 0;
-            for (int key = from; key <= to; key++) {
-                many += erase(map, key) >= 0 ? 1 : 0;
-            }
-            return many;
+            int had = keys(map);
+            now.get(map).subMap(from, true, to, true).clear();
+            return had - keys(map);
         }
 
         int next(int map, int key) {
-            if (wrongPlace(map, key)) {
-                return BAD;
-            }
-            for (int k = key; k < 4096; k++) {
-                if (now[map][k] >= 0) {
-                    return k;
-                }
-            }
-            return NONE;
+            return wrongPlace(map, key) ? BAD : orNone(now.get(map).ceilingKey(key));
         }
 
         int clone(int map, int from) {
@@ -181,7 +178,7 @@ public final class ModelTest {
             if (keys(-1) - keys(map) + keys(from) > 600) {
                 return FULL;
             }
-            now[map] = now[from].clone();
+            now.set(map, new TreeMap<>(now.get(from)));
             return keys(map);
         }
 
@@ -205,11 +202,7 @@ public final class ModelTest {
             }
             int many = 0;
             for (int i = 0; i < 8; i++) {
-                if (map == -1 || map == i) {
-                    for (int stamp : now[i]) {
-                        many += stamp >= 0 ? 1 : 0;
-                    }
-                }
+                many += map == -1 || map == i ? now.get(i).size() : 0;
             }
             return many;
         }
