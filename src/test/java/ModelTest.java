@@ -1,12 +1,7 @@
-import java.util.ArrayList;
-import java.util.List;
 import java.util.Random;
-import java.util.TreeMap;
 
 /** Long runs of calls, each answer compared with that of a plain model. */
 public final class ModelTest {
-    private static final int BAD = -1, NONE = -2, FULL = -3;
-    private static final int CALLS = 512;
     private static final int SAMPLES = 25;
     private static final int[] SIZES = {4, 5, 6, 7, 8, 13, 30, 31};
 
@@ -24,13 +19,13 @@ public final class ModelTest {
     /* Steps with a check behind every third; the last calls look at what is there and at what was kept. */
     private static void run(int m, int seed) {
         Random random = new Random(seed * 100L + m);
-        SharedTrees x = new SharedTrees(m);
+        Counted x = new Counted(m);
         Model model = new Model();
         int span = seed % 3 == 0 ? 4096 : seed % 3 == 1 ? 600 : 90;
         int wrongOnes = seed % 4 == 0 ? 10 : 0;
         String at = "m " + m + ", seed " + seed;
         int call = 0;
-        while (call < CALLS - 4 * SAMPLES - 4) {
+        while (call < Counted.MOST_CALLS - 4 * SAMPLES - 4) {
             step(x, model, random, span, wrongOnes, at + ", call " + call);
             call++;
             if (call % 4 == 3) {
@@ -44,7 +39,7 @@ public final class ModelTest {
         due.is(at + ": check", x.check(), 0);
     }
 
-    private static void sample(SharedTrees x, Model model, Random random, int span, String at) {
+    private static void sample(Counted x, Model model, Random random, int span, String at) {
         for (int i = 0; i < SAMPLES; i++) {
             int map = random.nextInt(8);
             int key = random.nextInt(span);
@@ -54,7 +49,7 @@ public final class ModelTest {
         }
     }
 
-    private static void step(SharedTrees x, Model o, Random random, int span, int wrong, String at) {
+    private static void step(Counted x, Model o, Random random, int span, int wrong, String at) {
         int map = number(random, 8, wrong);
         int other = number(random, 8, wrong);
         int key = number(random, span, wrong);
@@ -92,119 +87,6 @@ public final class ModelTest {
             case 0: return -1;
             case 1: return bound;
             default: return random.nextInt();
-        }
-    }
-
-    private static final class Model {
-        private List<TreeMap<Integer, Integer>> now = new ArrayList<>();
-        private List<TreeMap<Integer, Integer>> kept;
-
-        Model() {
-            for (int map = 0; map < 8; map++) {
-                now.add(new TreeMap<>());
-            }
-            kept = copyOf(now);
-        }
-
-        private static List<TreeMap<Integer, Integer>> copyOf(List<TreeMap<Integer, Integer>> maps) {
-            List<TreeMap<Integer, Integer>> copy = new ArrayList<>();
-            for (TreeMap<Integer, Integer> map : maps) {
-                copy.add(new TreeMap<>(map));
-            }
-            return copy;
-        }
-
-        private static boolean in(int number, int from, int to) {
-            return from <= number && number <= to;
-        }
-
-        private static boolean wrongPlace(int map, int key) {
-            return !in(map, 0, 7) || !in(key, 0, 4095);
-        }
-
-        private static int orNone(Integer number) {
-            return number == null ? NONE : number;
-        }
-
-        int write(int map, int key, int stamp) {
-            if (wrongPlace(map, key) || !in(stamp, 0, 1_000_000_000)) {
-                return BAD;
-            }
-            if (!now.get(map).containsKey(key) && keys(-1) == 600) {
-                return FULL;
-            }
-            now.get(map).put(key, stamp);
-            return keys(map);
-        }
-
-        int spread(int map, int key, int step, int many, int stamp) {
-            if (wrongPlace(map, key) || !in(stamp, 0, 1_000_000_000)
-                || !in(step, 1, 4095) || !in(many, 0, 600)) {
-                return BAD;
-            }
-            for (int i = 0; i < many; i++) {
-                if (write(map, key + i * step, stamp + i) < 0) {
-                    return i;
-                }
-            }
-            return many;
-        }
-
-        int read(int map, int key) {
-            return wrongPlace(map, key) ? BAD : orNone(now.get(map).get(key));
-        }
-
-        int erase(int map, int key) {
-            return wrongPlace(map, key) ? BAD : orNone(now.get(map).remove(key));
-        }
-
-        int cut(int map, int from, int to) {
-            if (wrongPlace(map, from) || wrongPlace(map, to) || to < from) {
-                return BAD;
-            }
-            int had = keys(map);
-            now.get(map).subMap(from, true, to, true).clear();
-            return had - keys(map);
-        }
-
-        int next(int map, int key) {
-            return wrongPlace(map, key) ? BAD : orNone(now.get(map).ceilingKey(key));
-        }
-
-        int clone(int map, int from) {
-            if (!in(map, 0, 7) || !in(from, 0, 7) || map == from) {
-                return BAD;
-            }
-            if (keys(-1) - keys(map) + keys(from) > 600) {
-                return FULL;
-            }
-            now.set(map, new TreeMap<>(now.get(from)));
-            return keys(map);
-        }
-
-        int drop(int map) {
-            return cut(map, 0, 4095);
-        }
-
-        int keep() {
-            kept = copyOf(now);
-            return keys(-1);
-        }
-
-        int back() {
-            now = copyOf(kept);
-            return keys(-1);
-        }
-
-        int keys(int map) {
-            if (!in(map, -1, 7)) {
-                return BAD;
-            }
-            int many = 0;
-            for (int i = 0; i < 8; i++) {
-                many += map == -1 || map == i ? now.get(i).size() : 0;
-            }
-            return many;
         }
     }
 }
