@@ -53,8 +53,7 @@ public final class SharedTrees {
         }
         now.roots[map] = trees.with(now.roots[map], key, stamp);
         if (added) {
-            now.counts[map]++;
-            now.total++;
+            changeCount(now, map, 1);
         }
         return now.counts[map];
     }
@@ -86,7 +85,8 @@ public final class SharedTrees {
         }
         int stamp = trees.stampOf(now.roots[map], key);
         if (stamp != NONE) {
-            removeKey(map, key);
+            now.roots[map] = trees.without(now.roots[map], key);
+            changeCount(now, map, -1);
         }
         return stamp;
     }
@@ -98,10 +98,11 @@ public final class SharedTrees {
         int removed = 0;
         int key = trees.keyFrom(now.roots[map], from);
         while (removed < MOST_KEYS && key != NONE && key <= to) {
-            removeKey(map, key);
+            now.roots[map] = trees.without(now.roots[map], key);
             removed++;
             key = trees.keyFrom(now.roots[map], key);
         }
+        changeCount(now, map, -removed);
         return removed;
     }
 
@@ -173,10 +174,9 @@ public final class SharedTrees {
         return (most + 1) / 2;
     }
 
-    private void removeKey(int map, int key) {
-        now.roots[map] = trees.without(now.roots[map], key);
-        now.counts[map]--;
-        now.total--;
+    private static void changeCount(Maps maps, int map, int more) {
+        maps.counts[map] += more;
+        maps.total += more;
     }
 
     private void leadAll(Maps to, Maps from) {
@@ -189,8 +189,7 @@ public final class SharedTrees {
         blocks.share(root);
         trees.release(maps.roots[map]);
         maps.roots[map] = root;
-        maps.total += count - maps.counts[map];
-        maps.counts[map] = count;
+        changeCount(maps, map, count - maps.counts[map]);
     }
 
     /** The root of each map's tree, and how many keys it has. */
@@ -268,8 +267,9 @@ public final class SharedTrees {
             return i >= 0 && i < freeCount && i < BLOCKS ? free[i] : NO_BLOCK;
         }
 
+        /* Asks no other method, as it is itself the last of long rows of calls. Block 0 stays empty. */
         private boolean isEntry(int block, int slot) {
-            return isBlock(block) && slot >= 0 && slot < width && slot < sizes[block];
+            return block >= 0 && block <= BLOCKS && slot >= 0 && slot < width && slot < sizes[block];
         }
 
         /** The last slot with a key that is not above this one; -1 if there is none. */
@@ -330,9 +330,9 @@ public final class SharedTrees {
                 return block;
             }
             int copy = take(level(block));
-            for (int slot = 0; slot < size(block); slot++) {
-                insert(copy, slot, key(block, slot), goal(block, slot));
-                if (level(block) > 0) {
+            copyEntries(block, copy);
+            if (level(block) > 0) {
+                for (int slot = 0; slot < size(block); slot++) {
                     share(goal(block, slot));
                 }
             }
@@ -340,11 +340,19 @@ public final class SharedTrees {
             return copy;
         }
 
+        private void copyEntries(int from, int to) {
+            if (isBlock(from) && isBlock(to)) {
+                System.arraycopy(entryKeys, from * width, entryKeys, to * width, width);
+                System.arraycopy(entryGoals, from * width, entryGoals, to * width, width);
+                sizes[to] = sizes[from];
+            }
+        }
+
         void insert(int block, int slot, int key, int goal) {
-            int size = size(block);
-            if (!isBlock(block) || slot < 0 || slot > size || size >= width) {
+            if (!isBlock(block) || slot < 0 || slot > sizes[block] || sizes[block] >= width) {
                 return;
             }
+            int size = sizes[block];
             int at = block * width + slot;
             System.arraycopy(entryKeys, at, entryKeys, at + 1, size - slot);
             System.arraycopy(entryGoals, at, entryGoals, at + 1, size - slot);
